@@ -541,7 +541,7 @@ public final class FoldKeeper {
         }
 
         void shift(int from, int n, int place) {
-            if (place < from) {
+            if (place <= from) {
                 swapParts(place, from, from + n);
             } else {
                 swapParts(from, from + n, place);
