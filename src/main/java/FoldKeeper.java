@@ -27,10 +27,10 @@ public final class FoldKeeper {
     private static final int GROWN_BYTES = 9;
     private static final char[] GROWN = {'(', ')', '[', ']', '{', '}', 'a', 'z', '/'};
 
-    private final Tape tape;
     private final TextReader reader;
-    private final Row row;
+    private final Tape tape;
     private final Brackets brackets;
+    private final Row row;
     private final History history;
     private final Row[] images;
     private final boolean[] kept;
@@ -38,10 +38,10 @@ public final class FoldKeeper {
     private int tornBy;
 
     public FoldKeeper() {
-        tape = new Tape();
-        reader = new TextReader(tape);
-        row = new Row();
-        brackets = new Brackets(row);
+        reader = new TextReader();
+        tape = reader.tape;
+        brackets = new Brackets();
+        row = brackets.row;
         history = new History();
         images = new Row[IMAGES];
         for (int k = 0; k < IMAGES; k++) {
@@ -621,8 +621,8 @@ public final class FoldKeeper {
         private final int[] levels;
         private final boolean[] hidden;
 
-        Brackets(Row row) {
-            this.row = row;
+        Brackets() {
+            row = new Row();
             partners = new int[MOST_SIGNS];
             partnersAlone = new int[MOST_SIGNS];
             heap = new int[MOST_SIGNS];
@@ -761,21 +761,14 @@ public final class FoldKeeper {
             return NONE;
         }
 
+        /** Within a PAIR none is BARE or has its PARTNER outside, so this never stops between two PARTNERS. */
         int wholeTill(int from) {
-            int farthest = from;
-            int needed = from;
             for (int i = from; i < row.size; i++) {
-                if (Signs.isBracket(row.byteAt(i))) {
-                    if (partners[i] < from) {
-                        return farthest;
-                    }
-                    needed = Math.max(needed, partners[i]);
-                }
-                if (needed <= i) {
-                    farthest = i + 1;
+                if (Signs.isBracket(row.byteAt(i)) && partners[i] < from) {
+                    return i;
                 }
             }
-            return farthest;
+            return row.size;
         }
 
         int longestFrom() {
@@ -1006,9 +999,9 @@ public final class FoldKeeper {
         private int till;
         private int number;
 
-        Tokens(Tape tape, Blame blame) {
-            this.tape = tape;
-            this.blame = blame;
+        Tokens() {
+            tape = new Tape();
+            blame = new Blame();
         }
 
         void restart() {
@@ -1098,19 +1091,19 @@ public final class FoldKeeper {
     private static final class TextReader {
         private static final int MOST_TIMES = 9;
 
+        private final Tokens tokens;
         private final Tape tape;
         private final Blame blame;
-        private final Tokens tokens;
         private final Row draft;
         private final boolean[] toMark;
         private int expected;
         private boolean marking;
         private int times;
 
-        TextReader(Tape tape) {
-            this.tape = tape;
-            blame = new Blame();
-            tokens = new Tokens(tape, blame);
+        TextReader() {
+            tokens = new Tokens();
+            tape = tokens.tape;
+            blame = tokens.blame;
             draft = new Row();
             toMark = new boolean[MOST_SIGNS];
         }

@@ -3,6 +3,7 @@ public final class BracketTest {
     public static void main(String[] args) {
         rules();
         partners();
+        clashOfTheFirst();
         folds();
         wrongAsks();
         low();
@@ -66,6 +67,11 @@ public final class BracketTest {
         dueEach("partner", each(alone, 3), 5, 2, 1, 4, 3, 0, none);
         dueEach("partner alone", each(alone, 4), 5, 4, none, 6, 1, 0, 3);
         dueEach("clash", each(alone, 5), 0, 1, 1, 1, 1, 0, 0);
+    }
+
+    private static void clashOfTheFirst() {
+        dueEach("clash", each(Check.holding("(]()"), 5), 1, 1, 0, 0);
+        Check.due("rule(4)", Check.holding("(]()").rule(4), 1);
     }
 
     private static void folds() {

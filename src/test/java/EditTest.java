@@ -14,6 +14,7 @@ public final class EditTest {
         mark();
         grow();
         undoEach();
+        undoneFollows();
         undoTwenty();
         redoTillAnother();
         images();
@@ -267,6 +268,20 @@ public final class EditTest {
             Check.due("rule(8)", x.rule(8), t);
         }
         Check.due("redo, none", x.redo(), Check.STATE);
+    }
+
+    private static void undoneFollows() {
+        FoldKeeper x = Check.holding("(/)", 0);
+        x.drop(2, 1);
+        Check.due("rule(2)", x.rule(2), 0);
+        Check.due("undo", x.undo(), 3);
+        Check.due("rule(2), undone", x.rule(2), 1);
+        Check.due("rule(6), undone", x.rule(6), 1);
+        Check.due("low, undone", x.low(0, 3), 0);
+        Check.due("redo", x.redo(), 2);
+        Check.due("rule(2), done again", x.rule(2), 0);
+        Check.due("rule(6), done again", x.rule(6), 0);
+        Check.due("bare, done again", x.bare(0, 0), 0);
     }
 
     private static void undoTwenty() {

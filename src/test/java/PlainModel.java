@@ -11,7 +11,6 @@ final class PlainModel {
     private static final int BAD = -1, STATE = -2, FULL = -3, NONE = -4;
     private static final String SIGNS = "([{)]}abcdefghijklmnopqrstuvwxyz/";
 
-    /** A sign with a mark is followed by a * in a state's text. */
     private record State(String signs, List<Boolean> marks) {
     }
 

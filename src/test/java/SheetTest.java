@@ -45,6 +45,11 @@ public final class SheetTest {
         Check.due("sheet anew", x.sheet(0, 2, 40), 1);
         Check.due("cells are 0 anew", x.read(0, 2, 39, 1), -20);
         Check.due("sheets are no edits", x.rule(8), 1);
+        fill(x, 0, 2, "a".repeat(40));
+        x.sheet(0, 2, 40);
+        for (int i = 0; i < 40; i++) {
+            Check.due("cell " + i + " is 0 anew", x.read(0, 2, i, 1), -20);
+        }
         for (int k = 1; k < 4; k++) {
             Check.due("others have nothing", x.lay(k, 0, 0), -11);
         }

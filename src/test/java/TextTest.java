@@ -181,6 +181,10 @@ public final class TextTest {
     private static void notHere() {
         faulty("rows \"a\";", 2, 0, 0, 0, Check.NONE);
         faulty("ro \"a\";", 2, 0, 0, 0, Check.NONE);
+        faulty("how \"a\";", 2, 0, 0, 0, Check.NONE);
+        faulty("raw \"a\";", 2, 0, 0, 0, Check.NONE);
+        faulty("rot \"a\";", 2, 0, 0, 0, Check.NONE);
+        faulty("text 1;", 2, 0, 0, 0, Check.NONE);
         faulty("marks 0;", 2, 0, 0, 0, Check.NONE);
         faulty("mar 0;", 2, 0, 0, 0, Check.NONE);
         faulty(";", 2, 0, 0, 0, Check.NONE);
@@ -264,6 +268,12 @@ public final class TextTest {
         Check.due("reason(1)", x.reason(1), 0);
         Check.due("insert()", x.insert(0, 'a'), 1);
         Check.due("fault() behind another call", x.fault(), 2);
+        Check.tell(x, "row \"a\"; row \"b\"; rep 2 3;");
+        Check.due("reason(0) of a third line", x.reason(0), 2);
+        Check.due("reason(1) of a third token", x.reason(1), 2);
+        Check.tell(x, "!");
+        Check.due("reason(0), another text", x.reason(0), 0);
+        Check.due("reason(1), another text", x.reason(1), 0);
         Check.tell(x, "row \"ab");
         Check.due("reason(2)", x.reason(2), 2);
         Check.tell(x, "row \"ab\"");
