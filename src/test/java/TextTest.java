@@ -16,6 +16,7 @@ public final class TextTest {
         tooMany();
         marks();
         firstMet();
+        fullTape();
         reasons();
         Check.close();
     }
@@ -256,6 +257,18 @@ public final class TextTest {
         faulty("rep 10 !", 3, 4, 0, 1, Check.NONE);
         faulty("say !", 2, 0, 0, 0, Check.NONE);
         faulty("row ; !", 2, 4, 0, 1, Check.NONE);
+    }
+
+    private static void fullTape() {
+        faulty("a".repeat(160), 2, 0, 0, 0, Check.NONE);
+        faulty("1".repeat(160), 1, 0, 0, 0, Check.NONE);
+        faulty(" ".repeat(159) + "7", 2, 159, 0, 0, Check.NONE);
+        faulty("\"" + "(".repeat(159), 2, 160, 0, 0, 159);
+        faulty("row\"a\"" + " ".repeat(154), 2, 160, 0, 2, Check.NONE);
+        FoldKeeper x = new FoldKeeper();
+        Check.due("a full tape of blanks", Check.tell(x, " ".repeat(160)), 0);
+        Check.due("a full tape of a line", Check.tell(x, "row\"" + SIXTY + "\"" + " ".repeat(94) + ";"), 60);
+        Check.due("a full tape of lines", Check.tell(x, "row\"\";".repeat(26) + "    "), 0);
     }
 
     private static void reasons() {
