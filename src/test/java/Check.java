@@ -9,6 +9,7 @@ final class Check {
     static final int NONE = FoldKeeper.NONE;
 
     private static int asked = 0;
+    private static String within = "";
     private static final List<String> WRONG = new ArrayList<>();
 
     private Check() {
@@ -17,8 +18,28 @@ final class Check {
     static void due(String call, int got, int want) {
         asked++;
         if (got != want) {
-            WRONG.add(call + " answered " + got + ", due is " + want);
+            wrong(call + " answered " + got + ", due is " + want);
         }
+    }
+
+    static void dueTold(String what, String got, String want) {
+        asked++;
+        if (!got.equals(want)) {
+            wrong(what + ": " + got + ", due: " + want);
+        }
+    }
+
+    private static void wrong(String what) {
+        WRONG.add(within.isEmpty() ? what : "[" + within + "] " + what);
+    }
+
+    /** Names what the next answers belong to. */
+    static void within(String what) {
+        within = what;
+    }
+
+    static int asked() {
+        return asked;
     }
 
     static void holds(String what, boolean is) {
@@ -51,7 +72,8 @@ final class Check {
     /** The signs of an object; one with a mark has a * behind it. */
     static String signsOf(FoldKeeper x) {
         StringBuilder signs = new StringBuilder();
-        for (int i = 0; i < x.rule(0); i++) {
+        int n = x.rule(0);
+        for (int i = 0; i < n; i++) {
             signs.append((char) x.sign(i, 0));
             if (x.sign(i, 6) == 1) {
                 signs.append('*');
@@ -61,11 +83,7 @@ final class Check {
     }
 
     static void dueSigns(String after, FoldKeeper x, String want) {
-        asked++;
-        String got = signsOf(x);
-        if (!got.equals(want)) {
-            WRONG.add("after " + after + " the signs are " + got + ", due are " + want);
-        }
+        dueTold("the signs after " + after, signsOf(x), want);
     }
 
     static void close() {

@@ -78,11 +78,13 @@ public final class EditTest {
         Check.due("insert(0)", x.insert(0, ')'), 5);
         Check.dueSigns("insert", x, ")a{(*/");
 
-        FoldKeeper full = amid("a".repeat(60));
-        refused(full, "insert, full", full.insert(0, 'a'), Check.FULL, "a".repeat(60));
-        refused(full, "insert, full, at the end", full.insert(60, 'a'), Check.FULL, "a".repeat(60));
-        refused(full, "insert, full, no place", full.insert(61, 'a'), Check.BAD, "a".repeat(60));
-        refused(full, "insert, full, no sign", full.insert(0, '!'), Check.BAD, "a".repeat(60));
+        String sixty = "a".repeat(60);
+        FoldKeeper full = amid(sixty);
+        refused(full, "insert, full", full.insert(0, 'a'), Check.FULL, sixty);
+        refused(full, "insert, full, at the end", full.insert(60, 'a'), Check.FULL, sixty);
+        full = amid(sixty);
+        refused(full, "insert, full, no place", full.insert(61, 'a'), Check.BAD, sixty);
+        refused(full, "insert, full, no sign", full.insert(0, '!'), Check.BAD, sixty);
         Check.due("drop", full.drop(0, 1), 59);
         Check.due("insert, room for one", full.insert(59, 'b'), 60);
     }
@@ -235,39 +237,53 @@ public final class EditTest {
         }
     }
 
-    private static void undoEach() {
+    private static FoldKeeper ofAllEdits() {
         FoldKeeper x = Check.holding("(a/)[", 0, 4);
-        String[] states = new String[10];
-        states[0] = Check.signsOf(x);
         x.sheet(0, 0, 1);
         x.lay(0, 0, 'q');
+        return x;
+    }
+
+    private static void edit(FoldKeeper x, int t) {
+        switch (t) {
+            case 1: x.put(0, '('); break;
+            case 2: x.insert(1, '{'); break;
+            case 3: x.mark(1, 1); break;
+            case 4: x.copy(0, 3, 4); break;
+            case 5: x.move(0, 2, 5); break;
+            case 6: x.turn(0, 7); break;
+            case 7: x.drop(2, 3); break;
+            case 8: x.grow(99, 9); break;
+            default: x.read(0, 0, 0, 1); break;
+        }
+    }
+
+    private static void undoEach() {
+        String[] states = new String[10];
+        FoldKeeper first = ofAllEdits();
+        FoldKeeper x = ofAllEdits();
+        FoldKeeper again = ofAllEdits();
+        states[0] = Check.signsOf(first);
         for (int t = 1; t < 10; t++) {
-            switch (t) {
-                case 1: x.put(0, '('); break;
-                case 2: x.insert(1, '{'); break;
-                case 3: x.mark(1, 1); break;
-                case 4: x.copy(0, 3, 4); break;
-                case 5: x.move(0, 2, 5); break;
-                case 6: x.turn(0, 7); break;
-                case 7: x.drop(2, 3); break;
-                case 8: x.grow(99, 9); break;
-                default: x.read(0, 0, 0, 1); break;
-            }
-            states[t] = Check.signsOf(x);
+            edit(first, t);
+            edit(x, t);
+            edit(again, t);
+            states[t] = Check.signsOf(first);
         }
         for (int t = 8; t >= 0; t--) {
             Check.due("undo to " + t, x.undo(), states[t].replace("*", "").length());
             Check.dueSigns("undo to " + t, x, states[t]);
             Check.due("rule(8)", x.rule(8), t);
             Check.due("rule(9)", x.rule(9), 9 - t);
+            again.undo();
         }
         Check.due("undo, none", x.undo(), Check.STATE);
         for (int t = 1; t <= 9; t++) {
-            Check.due("redo to " + t, x.redo(), states[t].replace("*", "").length());
-            Check.dueSigns("redo to " + t, x, states[t]);
-            Check.due("rule(8)", x.rule(8), t);
+            Check.due("redo to " + t, again.redo(), states[t].replace("*", "").length());
+            Check.dueSigns("redo to " + t, again, states[t]);
+            Check.due("rule(8)", again.rule(8), t);
         }
-        Check.due("redo, none", x.redo(), Check.STATE);
+        Check.due("redo, none", again.redo(), Check.STATE);
     }
 
     private static void undoneFollows() {
