@@ -250,6 +250,8 @@ final class BracketEdges {
             Keeper.of("a)()(b").due(NONE, "bare", 5, 0).due(NONE, "bare", 6, 0).due(NONE, "bare", 0, 1).due(NONE, "bare", 1, 1);
             Keeper.of("(]").due(NONE, "bare", 0, 0).due(NONE, "bare", 2, 1).due(NONE, "bare", 2, 0);
             new Keeper().due(NONE, "bare", 0, 0).due(NONE, "bare", 0, 1);
+            Keeper.of("a".repeat(60)).due(NONE, "bare", 0, 0).due(NONE, "bare", 60, 0).due(NONE, "bare", 60, 1);
+            Keeper.of("a(").does("drop", 1, 1).due(NONE, "bare", 0, 0).due(NONE, "bare", 1, 0).due(NONE, "bare", 1, 1);
         });
     }
 

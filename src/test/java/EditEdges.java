@@ -222,6 +222,8 @@ final class EditEdges {
             allBad(Keeper.of("a()]}/", 1), "mark", new int[][] {{-1, 1}, {6, 1}, {MAX, 1}, {MIN, 1}, {1, 2}, {1, -1}, {1, MAX}, {1, MIN}, {0, 1}, {0, 0},
                 {2, 1}, {2, 0}, {3, 1}, {4, 1}, {5, 1}, {5, 0}});
             allBad(new Keeper(), "mark", new int[][] {{0, 1}, {0, 0}});
+            allBad(Keeper.of("(".repeat(60)), "mark", new int[][] {{60, 1}, {-1, 0}});
+            Keeper.of("a(").does("drop", 1, 1).due(BAD, "mark", 1, 1).due(1, "rule", 8);
         });
     }
 
@@ -297,6 +299,8 @@ final class EditEdges {
     private static void undo() {
         Document.says(23, "The latest EDIT that can be undone is: all is as it was ahead of it: SIGNS.", () -> {
             Keeper.of("(/)", 0).due(0, "drop", 0, 3).due(3, "undo").dueSigns("(*/)").due(1, "rule", 6).due(1, "rule", 2).due(2, "sign", 0, 3);
+            Keeper.of("(/)", 0).due(2, "drop", 2, 1).due(0, "rule", 2).due(3, "undo").due(1, "rule", 2).due(0, "rule", 3).due(1, "sign", 1, 7)
+                .due(1, "sign", 1, 2).due(2, "sign", 0, 4).due(1, "low", 2, 2).due(1, "sign", 2, 8).due(3, "whole", 0);
             Keeper.of("([", 0).due('(', "put", 0, '(').due(0, "mark", 1, 1).due(2, "turn", 0, 2).due(2, "undo").dueSigns("([*")
                 .due(2, "undo").dueSigns("([").due(2, "undo").dueSigns("(*[");
             Keeper.of(SIXTY).due(1, "drop", 0, 59).due(60, "undo").dueSigns(SIXTY);
@@ -312,6 +316,8 @@ final class EditEdges {
             Keeper x = new Keeper().does("insert", 0, 'a').does("insert", 1, '(').does("mark", 1, 1).does("undo").does("undo").does("undo");
             x.due(1, "redo").dueSigns("a").due(2, "redo").dueSigns("a(").due(2, "redo").dueSigns("a(*").due(2, "undo").dueSigns("a(")
                 .due(2, "redo").dueSigns("a(*");
+            Keeper.of("a(/", 1).due(4, "insert", 3, ')').due(3, "undo").due(0, "rule", 2).due(4, "redo").due(1, "rule", 2).due(0, "rule", 3)
+                .due(1, "sign", 2, 7).due(1, "sign", 2, 2).due(3, "sign", 1, 4).due(0, "low", 4, 4).due(1, "sign", 3, 8).due(4, "whole", 0);
             Keeper twenty = new Keeper();
             for (int t = 0; t < 21; t++) {
                 twenty.does("insert", t, 'a' + t);

@@ -260,6 +260,7 @@ final class TapeEdges {
             faulty("row\"" + "(".repeat(59) + "\";mark 59;", 6, 73, NONE, NONE, NONE);
             faulty("mark 0;" + " ".repeat(153), 6, 160, NONE, NONE, NONE);
             taken("mark 0;row\"(\";", "(*");
+            Keeper.of("((").dueText(-25, "row\"(\";mark  1;").due(6, "fault").dueText(-25, "row\"\"; mark  0;").due(6, "fault");
         });
     }
 

@@ -188,6 +188,8 @@ final class TermEdges {
             Keeper.of("((a)").dueOfEach(2, 0, 0, 1, 0);
             Keeper.of("(a").dueOfEach(2, 0, 0);
             Keeper.of("([)a]").dueOfEach(2, 0, 1, 1, 1, 0);
+            Keeper.of("(a]").dueOfEach(2, 0, 1, 0);
+            Keeper.of("[(a]b").dueOfEach(2, 0, 0, 1, 0, 0);
             Keeper.of("(".repeat(30) + ")".repeat(30)).due(29, "sign", 29, 2).due(29, "sign", 30, 2).due(0, "sign", 59, 2);
         });
     }
@@ -213,6 +215,7 @@ final class TermEdges {
             Keeper.of("((/))", 1).dueOfEach(7, 0, 0, 1, 0, 0).due(1, "rule", 6);
             Keeper.of("((/))", 0, 1).dueOfEach(7, 0, 1, 1, 1, 0).due(3, "rule", 6);
             Keeper.of("(ab)", 0).dueOfEach(7, 0, 0, 0, 0).due(0, "rule", 6);
+            Keeper.of("(/]b)", 0).dueOfEach(7, 0, 1, 0, 0, 0).due(1, "rule", 6);
             Keeper.of("(/" + "a".repeat(57) + ")", 0).due(0, "sign", 0, 7).due(1, "sign", 1, 7).due(1, "sign", 58, 7)
                 .due(0, "sign", 59, 7).due(58, "rule", 6);
         });
